@@ -93,6 +93,7 @@ final class KeeperTest {
         CHECK.due("11: no bell strikes", 0, tower.total(5));
         CHECK.due("11: undo", 4, tower.undo());
         CHECK.due("11: dial undone", 16, tower.face(1, 0));
+        CHECK.due("11: the call ahead is not undone", 5, tower.setting(1));
         CHECK.due("11: faces set undone", 0, tower.total(6));
         TowerFaces around = new TowerFaces();
         around.hire(0, -3);

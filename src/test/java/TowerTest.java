@@ -277,6 +277,9 @@ final class TowerTest {
         tower.pass(2000);
         CHECK.due("8: wear ends at 9", 9, tower.face(1, 3));
         CHECK.holds("8: many slips", tower.face(1, 4) > 30);
+        CHECK.due("5: one wear less", 8, tower.oil(1));
+        CHECK.due("5: and one less", 7, tower.oil(1));
+        CHECK.due("5: wear", 7, tower.face(1, 3));
         CHECK.due("8: slips of all gears",
             tower.face(0, 4) + tower.face(1, 4) + tower.face(2, 4) + tower.face(3, 4), tower.total(4));
     }
