@@ -24,6 +24,13 @@ final class Check {
         due(what, 1, holds ? 1 : 0);
     }
 
+    void same(String what, int[] want, int[] got) {
+        due(what + ": length", want.length, got.length);
+        for (int place = 0; place < Math.min(want.length, got.length); place++) {
+            due(what + ": answer " + place, want[place], got[place]);
+        }
+    }
+
     boolean isWrong() {
         return wrong > 0;
     }

@@ -7,6 +7,7 @@ final class ModelTest {
     private static final Check CHECK = new Check("ModelTest");
     private static final int CALLS = 512;
     private static final int RUNS = 400;
+    private static final int RUNS_TO_LAST_TIME = 40;
     private static final int[] FAR = {Integer.MIN_VALUE, Integer.MIN_VALUE + 1, -1441, -31, -1, 4, 61, 127, 720,
         1440, 2001, 5001, 65537, Integer.MAX_VALUE - 1, Integer.MAX_VALUE};
     private static final String SIGNS = "fkwob0123456789:+-;x";
@@ -22,7 +23,7 @@ final class ModelTest {
             model = new Model();
             int calls = 0;
             while (calls < CALLS) {
-                calls += call(run);
+                calls += run % RUNS_TO_LAST_TIME == 0 ? callNearLastTime(calls) : call(run);
             }
         }
         CHECK.end();
@@ -46,6 +47,18 @@ final class ModelTest {
             return states(next(3));
         }
         return choice % 3 == 0 ? changes(next(9)) : choice % 3 == 1 ? looks(next(9)) : others(next(10));
+    }
+
+    /** The last time is 501 calls off, so that eleven calls are left there. */
+    private static int callNearLastTime(int calls) {
+        if (calls == 300) {
+            return keepers(0);
+        }
+        if (calls <= 500) {
+            int minutes = calls < 500 ? 2000 : 1999 - next(2);
+            return due("pass", tower.pass(minutes), model.pass(minutes));
+        }
+        return next(2) == 0 ? changes(next(9)) : looks(3 + next(3));
     }
 
     private static int changes(int choice) {

@@ -167,18 +167,17 @@ final class PredictionTest {
     }
 
     private static void nothingChanges() {
-        TowerFaces tower = new TowerFaces();
-        tower.hire(30, -4);
-        tower.bell(2);
-        tower.dial(1, 200);
-        tower.pass(1000);
-        int[] ahead = Answers.of(tower);
-        tower.spreadIn(2000);
-        Answers.compare(CHECK, "18", ahead, Answers.of(tower));
-        tower.minutesTo(360);
-        Answers.compare(CHECK, "19", ahead, Answers.of(tower));
-        tower.bestOil();
-        Answers.compare(CHECK, "20", ahead, Answers.of(tower));
-        CHECK.due("18 to 20: nothing is recorded", 3, tower.undo());
+        Model model = new Model();
+        model.set(1, 7);
+        model.gear(3, 11);
+        model.bell(2);
+        model.hire(60, -4);
+        model.pass(1000);
+        model.dial(1, 200);
+        model.hire(800, 14);
+        model.pass(77);
+        Views.unchanged(CHECK, "18: spreadIn", model.spreadIn(2000), Towers::busy, tower -> tower.spreadIn(2000));
+        Views.unchanged(CHECK, "19: minutesTo", model.minutesTo(360), Towers::busy, tower -> tower.minutesTo(360));
+        Views.unchanged(CHECK, "20: bestOil", model.bestOil(), Towers::busy, TowerFaces::bestOil);
     }
 }

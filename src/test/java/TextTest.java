@@ -9,7 +9,9 @@ final class TextTest {
         unfinished();
         errors();
         everySignInEveryPlace();
-        fullBuffer();
+        everyNumberOfMinutes();
+        everyNumberOfWrong();
+        everyClock();
         work();
         workNumbers();
         workStops();
@@ -107,24 +109,43 @@ final class TextTest {
         }
     }
 
-    private static void fullBuffer() {
-        StringBuilder works = new StringBuilder("b1");
-        for (int more = 0; more < 19; more++) {
-            works.append(";b1");
-        }
-        works.insert(0, "w");
-        works.setLength(60);
+    private static void position(String text, int due) {
         TowerFaces tower = new TowerFaces();
-        Texts.put(tower, works.toString());
-        CHECK.due("23: an error in a full buffer", 1, tower.errorPosition());
-        Texts.put(tower, "o0;o0;o0;o0;o0;o0;o0;o0;o0;o0;o0;o0;o0;o0;o0;o0;o0;o0;o0;o0;");
-        CHECK.due("23: a full buffer that is no text", 60, tower.errorPosition());
-        CHECK.due("24: is not done", TowerFaces.BAD_TEXT, tower.work());
-        Texts.put(tower, "w1;b1;b1;b1;b1;b1;b1;b1;b1;b1;b1;b1;b1;b1;b1;b1;b1;b1;b1;w10");
-        CHECK.due("23: a full buffer that is a text", TowerFaces.NONE, tower.errorPosition());
-        CHECK.due("24: twenty works", 20, tower.work());
-        CHECK.due("24: time", 11, tower.total(0));
-        CHECK.due("24: the bell was moved 18 times", 0, tower.face(1, 5));
+        Texts.put(tower, text);
+        CHECK.due("23: errorPosition of '" + text + "'", due, tower.errorPosition());
+    }
+
+    /** From 2001 on the fourth digit is the error, or the fifth one if four digits are a number. */
+    private static void everyNumberOfMinutes() {
+        position("w0", 1);
+        for (int number = 1; number <= 20019; number++) {
+            int tooGreat = number < 10000 || number > 20009 ? 4 : 5;
+            position("w" + number, number <= 2000 ? TowerFaces.NONE : tooGreat);
+            if (number <= 2001) {
+                position("w0" + number, 1);
+            }
+        }
+    }
+
+    private static void everyNumberOfWrong() {
+        for (String sign : new String[] {"+", "-"}) {
+            for (int number = 0; number <= 310; number++) {
+                int tooGreat = number >= 100 && number < 310 ? 9 : 8;
+                position("k00:00" + sign + number, number <= 30 ? TowerFaces.NONE : tooGreat);
+                position("k00:00" + sign + "0" + number, 8);
+            }
+        }
+    }
+
+    private static void everyClock() {
+        for (int hours = 0; hours < 100; hours++) {
+            for (int minutes = 0; minutes < 100; minutes++) {
+                int due = hours > 29 ? 0 : hours > 23 ? 1 : minutes > 59 ? 3 : TowerFaces.NONE;
+                String clock = String.format("%02d:%02d", hours, minutes);
+                position("f3" + clock, due == TowerFaces.NONE ? due : 2 + due);
+                position("k" + clock + "-0", due == TowerFaces.NONE ? due : 1 + due);
+            }
+        }
     }
 
     private static void work() {

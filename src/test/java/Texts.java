@@ -1,5 +1,8 @@
 /** What several tests do with the buffer. */
 final class Texts {
+    /** A text of twenty works that fills the buffer. */
+    static final String SIXTY_SIGNS = "w1;b1;b1;b1;b1;b1;b1;b1;b1;b1;b1;b1;b1;b1;b1;b1;b1;b1;b1;w10";
+
     private Texts() {
     }
 

@@ -1,14 +1,18 @@
-/** Promises 25 to 27: undo, save, restore. */
+/** Promises 25 to 27: undo, save, restore; and which calls record a state. */
 final class UndoTest {
     private static final Check CHECK = new Check("UndoTest");
 
     public static void main(String[] args) {
         undo();
-        undoKeepsFive();
-        undoOfEachCall();
         undoBringsAllBack();
+        restoreBringsAllBack();
         undoLeavesBufferAndSavedState();
-        failingCallsRecordNothing();
+        callsRecord();
+        callsWithoutDifferenceRecord();
+        worksRecordOneState();
+        looksChangeNothing();
+        textCallsChangeTheBufferAlone();
+        saveChangesTheSavedStateAlone();
         save();
         restore();
         CHECK.end();
@@ -16,7 +20,6 @@ final class UndoTest {
 
     private static void undo() {
         TowerFaces tower = new TowerFaces();
-        CHECK.due("25: nothing recorded", TowerFaces.NOT_POSSIBLE, tower.undo());
         tower.dial(0, 1);
         tower.dial(0, 2);
         CHECK.due("25: one remains", 1, tower.undo());
@@ -26,96 +29,48 @@ final class UndoTest {
         CHECK.due("25: the state ahead", 1, tower.face(0, 0));
         CHECK.due("25: none remains", 0, tower.undo());
         CHECK.due("25: the first state", 0, tower.face(0, 0));
-        CHECK.due("25: no more", TowerFaces.NOT_POSSIBLE, tower.undo());
-        CHECK.due("25: the state stays", 0, tower.face(0, 0));
     }
 
-    private static void undoKeepsFive() {
-        for (int calls = 5; calls < 20; calls++) {
-            TowerFaces tower = new TowerFaces();
-            for (int call = 1; call <= calls; call++) {
+    /** In each place that a recorded state can have. */
+    private static void undoBringsAllBack() {
+        for (int recorded = 0; recorded < 6; recorded++) {
+            TowerFaces tower = Towers.busy();
+            for (int call = 0; call < recorded; call++) {
                 tower.dial(2, call);
             }
-            for (int left = 4; left >= 0; left--) {
-                CHECK.due("25: states left", left, tower.undo());
-                CHECK.due("25: dial", calls - 5 + left, tower.face(2, 0));
-            }
-            CHECK.due("25: no sixth state", TowerFaces.NOT_POSSIBLE, tower.undo());
-            CHECK.due("25: dial stays", calls - 5, tower.face(2, 0));
-        }
-    }
-
-    /** Each of these makes no difference, but records. */
-    private static void undoOfEachCall() {
-        TowerFaces tower = new TowerFaces();
-        tower.hire(0, 0);
-        tower.save();
-        for (int call = 0; call < 6; call++) {
-            while (tower.undo() > 0) {
-                continue;
-            }
-            if (call == 5) {
-                Texts.put(tower, "o1");
-            }
-            callWithoutDifference(tower, call);
-            CHECK.due("25: call " + call + " is recorded", 0, tower.undo());
-            tower.restore();
-        }
-    }
-
-    private static void callWithoutDifference(TowerFaces tower, int call) {
-        switch (call) {
-            case 0:
-                tower.set(0, 3);
-                break;
-            case 1:
-                tower.gear(0, 20);
-                break;
-            case 2:
-                tower.oil(0);
-                break;
-            case 3:
-                tower.dial(0, 0);
-                break;
-            case 4:
-                tower.restore();
-                break;
-            default:
-                tower.work();
-                break;
-        }
-    }
-
-    private static void undoBringsAllBack() {
-        TowerFaces tower = busyTower();
-        int[] ahead = Answers.of(tower);
-        tower.save();
-        for (int call = 0; call < 5; call++) {
+            int[] ahead = Looks.all(tower);
             change(tower);
             CHECK.due("25: undo", 4, tower.undo());
-            Answers.compare(CHECK, "25", ahead, Answers.of(tower));
+            CHECK.same("25: undone", ahead, Looks.all(tower));
         }
+    }
+
+    private static void restoreBringsAllBack() {
+        TowerFaces tower = Towers.busy();
+        tower.save();
+        int[] ahead = Looks.all(tower);
         change(tower);
-        tower.restore();
-        Answers.compare(CHECK, "27", ahead, Answers.of(tower));
+        CHECK.due("27: restore", ahead[0], tower.restore());
+        CHECK.same("27: restored", ahead, Looks.all(tower));
+        for (int setting = 0; setting < 3; setting++) {
+            tower.set(setting, setting < 2 ? 9 : 900);
+        }
+        Towers.setGears(tower, 44);
+        CHECK.due("27: restore again", ahead[0], tower.restore());
+        CHECK.same("27: restored again", ahead, Looks.all(tower));
     }
 
-    private static TowerFaces busyTower() {
-        TowerFaces tower = new TowerFaces();
-        tower.hire(30, -4);
-        tower.hire(800, 14);
-        tower.bell(2);
-        tower.dial(1, 200);
-        tower.set(1, 7);
-        tower.gear(3, 11);
-        tower.pass(1000);
-        return tower;
-    }
-
-    /** Changes all that a state holds, with one recorded call. */
+    /** Changes most of what a state holds with one recorded call; no work changes settings or teeth. */
     private static void change(TowerFaces tower) {
-        Texts.put(tower, "w2000;o0;b2;b3;f200:07;k00:01+5;k20:01+6;k13:00-7;w1500");
-        tower.work();
+        int[] ahead = Looks.all(tower);
+        Texts.put(tower, "w2000;o0;b2;b3;f200:07;k00:01+5;k20:01+6;k14:00-7;w1500");
+        CHECK.due("24: works", 9, tower.work());
+        int[] behind = Looks.all(tower);
+        int changed = 0;
+        for (int number = 0; number < Looks.COUNT; number++) {
+            changed += behind[number] == ahead[number] ? 0 : 1;
+        }
+        CHECK.holds("24: most is another then", changed > 40);
     }
 
     private static void undoLeavesBufferAndSavedState() {
@@ -132,22 +87,143 @@ final class UndoTest {
         CHECK.due("27: which is the one saved", 100, tower.face(0, 0));
     }
 
-    private static void failingCallsRecordNothing() {
+    /** A tower with two recorded states, a saved state and a text. */
+    private static TowerFaces moving() {
         TowerFaces tower = new TowerFaces();
-        tower.set(0, 0);
-        tower.gear(4, 20);
-        tower.gear(0, 9);
-        tower.oil(4);
-        tower.dial(0, 720);
-        tower.bell(-1);
-        tower.pass(0);
-        tower.hire(1440, 0);
-        tower.dismiss(0);
-        tower.reset();
+        tower.hire(60, -4);
+        tower.save();
+        Texts.put(tower, "b1;w7;f203:04");
+        tower.pass(277);
+        return tower;
+    }
+
+    /** The same without strain and wear, and with all faces right by the keeper's watch. */
+    private static TowerFaces still() {
+        TowerFaces tower = new TowerFaces();
+        tower.hire(60, 0);
+        tower.dial(1, 1);
+        tower.save();
+        Texts.put(tower, "o1");
+        return tower;
+    }
+
+    /** The call records the state ahead of it, and nothing else: undone, all is as if it had not been made. */
+    private static void recorded(String what, int due, Views.Maker maker, Views.Call call) {
+        for (int view = 0; view < Views.BUFFER; view++) {
+            recordedIn(what, view, due, maker, call);
+        }
+    }
+
+    private static void recordedWithBuffer(String what, int due, Views.Maker maker, Views.Call call) {
+        for (int view = 0; view < Views.COUNT; view++) {
+            recordedIn(what, view, due, maker, call);
+        }
+    }
+
+    private static void recordedIn(String what, int view, int due, Views.Maker maker, Views.Call call) {
+        TowerFaces asked = maker.make();
+        CHECK.due(what, due, call.on(asked));
+        CHECK.due(what + " records one state", 2, asked.undo());
+        CHECK.same(what + " undone, view " + view, Views.of(maker.make(), view), Views.of(asked, view));
+    }
+
+    private static void callsRecord() {
+        recordedWithBuffer("2: set the load", 3, UndoTest::moving, tower -> tower.set(0, 5));
+        recordedWithBuffer("2: set the tolerance", 1, UndoTest::moving, tower -> tower.set(1, 5));
+        recordedWithBuffer("2: set the grip", 600, UndoTest::moving, tower -> tower.set(2, 500));
+        for (int number = 0; number < 4; number++) {
+            int face = number;
+            recordedWithBuffer("4: gear", 20 + 10 * face, UndoTest::moving, tower -> tower.gear(face, 11));
+        }
+        recordedWithBuffer("5: oil", 0, UndoTest::moving, tower -> tower.oil(0));
+        recordedWithBuffer("6: dial", 277 - 4 - 1 - 5, UndoTest::moving, tower -> tower.dial(0, 5));
+        recordedWithBuffer("7: bell", 1, UndoTest::moving, tower -> tower.bell(1));
+        recordedWithBuffer("8: pass", 5, UndoTest::moving, tower -> tower.pass(60));
+        recordedWithBuffer("9: hire", 2, UndoTest::moving, tower -> tower.hire(5, 30));
+        recordedWithBuffer("10: dismiss", -4, UndoTest::moving, tower -> tower.dismiss(60));
+        recordedWithBuffer("11: reset", 1, UndoTest::dialsAtWatch, TowerFaces::reset);
+        recorded("24: work", 3, UndoTest::moving, TowerFaces::work);
+        recordedWithBuffer("27: restore", 0, UndoTest::moving, TowerFaces::restore);
+    }
+
+    /** All dials but one are right by a watch of the time 0 that is 4 minutes slow. */
+    private static TowerFaces dialsAtWatch() {
+        TowerFaces tower = new TowerFaces();
+        tower.save();
+        Texts.put(tower, "f011:56;f111:57;f211:55;k01:00-4");
         tower.work();
-        tower.restore();
-        tower.append(0);
-        CHECK.due("25: nothing is recorded", TowerFaces.NOT_POSSIBLE, tower.undo());
+        Texts.put(tower, "b3");
+        tower.dial(3, 714);
+        return tower;
+    }
+
+    private static void callsWithoutDifferenceRecord() {
+        recordedWithBuffer("2: set", 3, UndoTest::still, tower -> tower.set(0, 3));
+        recordedWithBuffer("4: gear", 30, UndoTest::still, tower -> tower.gear(1, 30));
+        recordedWithBuffer("5: oil", 0, UndoTest::still, tower -> tower.oil(1));
+        recordedWithBuffer("6: dial", 0, UndoTest::still, tower -> tower.dial(1, 1));
+        recordedWithBuffer("11: reset", 0, UndoTest::still, TowerFaces::reset);
+        recorded("24: work", 1, UndoTest::still, TowerFaces::work);
+        recordedWithBuffer("27: restore", 0, UndoTest::still, TowerFaces::restore);
+        recorded("24: no work at all", 0, UndoTest::withFailingWork, TowerFaces::work);
+    }
+
+    private static TowerFaces withFailingWork() {
+        TowerFaces tower = still();
+        Texts.put(tower, "k01:00+3;w5");
+        return tower;
+    }
+
+    /** With five recorded states, works discard the oldest one alone. */
+    private static void worksRecordOneState() {
+        TowerFaces tower = new TowerFaces();
+        for (int call = 1; call <= 5; call++) {
+            tower.dial(0, call);
+        }
+        Texts.put(tower, "f000:10;f000:11;f000:12;f000:13;f000:14;f000:15;f000:16");
+        CHECK.due("24: works", 7, tower.work());
+        CHECK.due("14: the last work's dial", 16, tower.face(0, 0));
+        for (int left = 4; left >= 0; left--) {
+            CHECK.due("25: states left behind works", left, tower.undo());
+            CHECK.due("25: dial behind works", left + 1, tower.face(0, 0));
+        }
+        CHECK.due("25: the oldest one is gone", TowerFaces.NOT_POSSIBLE, tower.undo());
+    }
+
+    private static void looksChangeNothing() {
+        Views.unchanged(CHECK, "3: setting", 7, Towers::busy, tower -> tower.setting(1));
+        Views.unchanged(CHECK, "12: keeper", 800, Towers::busy, tower -> tower.keeper(1077, 0));
+        Views.unchanged(CHECK, "13: keeperTime", 1077 + 14 - 720, Towers::busy, TowerFaces::keeperTime);
+        Views.unchanged(CHECK, "14: face", 11, Towers::busy, tower -> tower.face(3, 1));
+        Views.unchanged(CHECK, "15: total", 1077, Towers::busy, tower -> tower.total(0));
+        Views.unchanged(CHECK, "23: errorPosition", TowerFaces.NONE, Towers::busy, TowerFaces::errorPosition);
+        Views.unchanged(CHECK, "16: majority", 0, TowerFaces::new, TowerFaces::majority);
+        Views.unchanged(CHECK, "17: coming", 1440, TowerFaces::new, tower -> tower.coming(23, 1));
+        Views.unchanged(CHECK, "18: spreadIn", 2, UndoTest::saved, tower -> tower.spreadIn(200));
+        Views.unchanged(CHECK, "19: minutesTo", 134, UndoTest::saved, tower -> tower.minutesTo(2));
+        Views.unchanged(CHECK, "20: bestOil", 0, UndoTest::saved, TowerFaces::bestOil);
+    }
+
+    private static TowerFaces saved() {
+        TowerFaces tower = new TowerFaces();
+        tower.save();
+        tower.append('w');
+        return tower;
+    }
+
+    private static void textCallsChangeTheBufferAlone() {
+        for (int view = 0; view < Views.BUFFER; view++) {
+            Views.unchangedIn(CHECK, "21: append", view, 14, Towers::busy, tower -> tower.append(';'));
+            Views.unchangedIn(CHECK, "22: clearText", view, 13, Towers::busy, TowerFaces::clearText);
+        }
+    }
+
+    private static void saveChangesTheSavedStateAlone() {
+        for (int view = 0; view < Views.COUNT; view++) {
+            if (view != Views.RESTORED) {
+                Views.unchangedIn(CHECK, "26: save", view, 1077, Towers::busy, TowerFaces::save);
+            }
+        }
     }
 
     private static void save() {
@@ -163,7 +239,6 @@ final class UndoTest {
 
     private static void restore() {
         TowerFaces tower = new TowerFaces();
-        CHECK.due("27: nothing saved", TowerFaces.NOT_POSSIBLE, tower.restore());
         tower.dial(0, 9);
         tower.save();
         tower.pass(70);

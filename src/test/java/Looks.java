@@ -1,0 +1,39 @@
+/** All that can be asked of a tower's state, one look at a time. No look changes anything. */
+final class Looks {
+    private static final int TOTALS = 9;
+    private static final int FACE_PARTS = 8;
+    private static final int FACE_LOOKS = 4 * FACE_PARTS;
+    private static final int SETTINGS = 3;
+    private static final int KEEPER_PARTS = 3;
+    private static final int MINUTES_APART = 120;
+    private static final int KEEPER_LOOKS = 1440 / MINUTES_APART * KEEPER_PARTS;
+    static final int COUNT = TOTALS + FACE_LOOKS + SETTINGS + KEEPER_LOOKS;
+
+    private Looks() {
+    }
+
+    static int one(TowerFaces tower, int number) {
+        int rest = number;
+        if (rest < TOTALS) {
+            return tower.total(rest);
+        }
+        rest -= TOTALS;
+        if (rest < FACE_LOOKS) {
+            return tower.face(rest / FACE_PARTS, rest % FACE_PARTS);
+        }
+        rest -= FACE_LOOKS;
+        if (rest < SETTINGS) {
+            return tower.setting(rest);
+        }
+        rest -= SETTINGS;
+        return tower.keeper(rest / KEEPER_PARTS * MINUTES_APART, rest % KEEPER_PARTS);
+    }
+
+    static int[] all(TowerFaces tower) {
+        int[] answers = new int[COUNT];
+        for (int number = 0; number < COUNT; number++) {
+            answers[number] = one(tower, number);
+        }
+        return answers;
+    }
+}
