@@ -314,7 +314,7 @@ public final class TowerFaces {
 
     public int bestOil() {
         int best = 0;
-        int least = Integer.MAX_VALUE;
+        int least = FACES * MOST_DISTANCE + 1;
         for (int number = 0; number < FACES; number++) {
             int error = errorAfterOil(number);
             if (error < least) {

@@ -21,7 +21,8 @@ final class FormTest {
     private static final String[] REFUSED = {"\\bthrows?\\b", "\\btry\\b", "\\bcatch\\b", "\\bfinally\\b",
         "\\bsynchronized\\b", "\\bassert\\b", "\\bimport\\b", "\\bpackage\\b", "->", "::", "\\w+Exact\\b",
         "\\bstatic\\s*\\{", "\\bSystem\\.(?!arraycopy)", "\\bequals\\b", "\\bhashCode\\b", "\\btoString\\b",
-        "\\bObject\\b", "\\bThread\\b", "\\bMath\\.random\\b", "\\bvar\\b"};
+        "\\bObject\\b", "\\bThread\\b", "\\bMath\\.random\\b", "\\bvar\\b",
+        "\\b(?:Integer|Long|Math)\\.[A-Z]"};
 
     public static void main(String[] args) throws IOException {
         constants();

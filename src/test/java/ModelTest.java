@@ -6,6 +6,8 @@
 final class ModelTest {
     private static final Check CHECK = new Check("ModelTest");
     private static final int CALLS = 512;
+    /** One work and the ";" ahead of it are appended together: ";k00:00+30". */
+    private static final int LONGEST_WORK = 10;
     private static final int RUNS = 400;
     private static final int RUNS_TO_LAST_TIME = 40;
     private static final int[] FAR = {Integer.MIN_VALUE, Integer.MIN_VALUE + 1, -1441, -31, -1, 4, 61, 127, 720,
@@ -21,12 +23,26 @@ final class ModelTest {
             row = 7919L * run;
             tower = new TowerFaces();
             model = new Model();
-            int calls = 0;
-            while (calls < CALLS) {
-                calls += run % RUNS_TO_LAST_TIME == 0 ? callNearLastTime(calls) : call(run);
+            if (run % RUNS_TO_LAST_TIME == 0) {
+                callsNearLastTime();
+            } else {
+                calls(run);
             }
         }
         CHECK.end();
+    }
+
+    private static void calls(int run) {
+        int calls = 0;
+        while (calls <= CALLS - LONGEST_WORK) {
+            calls += call(run);
+        }
+    }
+
+    private static void callsNearLastTime() {
+        for (int calls = 0; calls < CALLS; calls++) {
+            callNearLastTime(calls);
+        }
     }
 
     /** Answers how many calls were made. */
@@ -50,15 +66,17 @@ final class ModelTest {
     }
 
     /** The last time is 501 calls off, so that eleven calls are left there. */
-    private static int callNearLastTime(int calls) {
+    private static void callNearLastTime(int calls) {
         if (calls == 300) {
-            return keepers(0);
-        }
-        if (calls <= 500) {
+            keepers(0);
+        } else if (calls <= 500) {
             int minutes = calls < 500 ? 2000 : 1999 - next(2);
-            return due("pass", tower.pass(minutes), model.pass(minutes));
+            due("pass", tower.pass(minutes), model.pass(minutes));
+        } else if (next(2) == 0) {
+            changes(next(9));
+        } else {
+            looks(3 + next(3));
         }
-        return next(2) == 0 ? changes(next(9)) : looks(3 + next(3));
     }
 
     private static int changes(int choice) {

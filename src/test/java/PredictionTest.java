@@ -1,7 +1,6 @@
 /** Promises 18 to 20: spreadIn, minutesTo, bestOil. */
 final class PredictionTest {
     private static final Check CHECK = new Check("PredictionTest");
-    private static final int[] FAR = {Integer.MIN_VALUE, Integer.MAX_VALUE};
 
     public static void main(String[] args) {
         spreadIn();
@@ -17,9 +16,6 @@ final class PredictionTest {
 
     private static void spreadIn() {
         TowerFaces tower = new TowerFaces();
-        for (int minutes : new int[] {-1, 2001, FAR[0], FAR[1]}) {
-            CHECK.due("18: minutes out of range", TowerFaces.BAD_VALUE, tower.spreadIn(minutes));
-        }
         CHECK.due("18: now", 0, tower.spreadIn(0));
         CHECK.due("18: ahead of the first slip", 0, tower.spreadIn(66));
         CHECK.due("18: behind the first slip", 1, tower.spreadIn(67));
@@ -44,9 +40,6 @@ final class PredictionTest {
 
     private static void minutesTo() {
         TowerFaces tower = new TowerFaces();
-        for (int spread : new int[] {-1, 361, FAR[0], FAR[1]}) {
-            CHECK.due("19: spread out of range", TowerFaces.BAD_VALUE, tower.minutesTo(spread));
-        }
         CHECK.due("19: now", 0, tower.minutesTo(0));
         CHECK.due("19: the first slip of face 0", 67, tower.minutesTo(1));
         // Face 1 slipped at 100, faces 2 and 3 go with the time until 134 and 167.

@@ -29,7 +29,6 @@ final class RefusedTest {
         Views.unchanged(CHECK, what, due, maker, call);
     }
 
-    /** Behind 501 calls each tower has few left, so several are made for all looks. */
     private static void passBeyondLastTime() {
         int[][] rows = {{0, 1}, {0, 2000}, {1, 2}, {1998, 1999}, {1998, 2000}};
         for (int[] row : rows) {
@@ -37,13 +36,24 @@ final class RefusedTest {
             String what = "8: pass(" + row[1] + ") at " + (999999 - row[0]);
             CHECK.due(what, TowerFaces.LIMIT, tower.pass(row[1]));
             CHECK.due(what + " lets no minute pass", 999999 - row[0], tower.total(0));
+            CHECK.due(what + " saves nothing", TowerFaces.NOT_POSSIBLE, tower.restore());
             CHECK.due(what + " records nothing", 4, tower.undo());
+            CHECK.due(what + ", the time ahead", 998000, tower.total(0));
+            for (int left = 3; left >= 0; left--) {
+                CHECK.due(what + " keeps the states", left, tower.undo());
+            }
+            CHECK.due(what + ", the oldest state", 990000, tower.total(0));
         }
+        lookBehindLimit();
+    }
+
+    /** Behind 501 calls a tower is good for few looks, so several towers share them. */
+    private static void lookBehindLimit() {
         int looksOfOne = 8;
         for (int first = 0; first < Looks.COUNT; first += looksOfOne) {
             TowerFaces untouched = Towers.aheadOfLastTime(3);
             TowerFaces asked = Towers.aheadOfLastTime(3);
-            asked.pass(4);
+            CHECK.due("8: beyond the last time", TowerFaces.LIMIT, asked.pass(4));
             for (int number = first; number < Math.min(first + looksOfOne, Looks.COUNT); number++) {
                 CHECK.due("8: look " + number + " behind LIMIT", Looks.one(untouched, number), Looks.one(asked, number));
             }

@@ -22,28 +22,19 @@ final class TextTest {
 
     private static void append() {
         TowerFaces tower = new TowerFaces();
-        for (int code : new int[] {32, 127, 0, -1, 65536 + 'w', Integer.MIN_VALUE, Integer.MAX_VALUE}) {
-            CHECK.due("21: code out of range", TowerFaces.BAD_VALUE, tower.append(code));
-        }
-        CHECK.due("21: the first code", 1, tower.append(33));
-        CHECK.due("21: the last code", 2, tower.append(126));
-        for (int length = 3; length <= 60; length++) {
-            CHECK.due("21: length", length, tower.append('a'));
-        }
-        CHECK.due("21: no room", TowerFaces.LIMIT, tower.append('a'));
-        CHECK.due("21: a bad value comes first", TowerFaces.BAD_VALUE, tower.append(32));
-        CHECK.due("21: records nothing", TowerFaces.NOT_POSSIBLE, tower.undo());
-        CHECK.due("21: the buffer stays", 60, tower.clearText());
+        CHECK.due("21: one character", 1, tower.append('w'));
+        CHECK.due("21: two characters", 2, tower.append('1'));
+        CHECK.due("21: any character", 3, tower.append('~'));
+        CHECK.due("21: which is kept", 2, tower.errorPosition());
     }
 
     private static void clearText() {
         TowerFaces tower = new TowerFaces();
-        CHECK.due("22: empty", 0, tower.clearText());
         Texts.put(tower, "w1;x");
         CHECK.due("22: four characters", 4, tower.clearText());
-        CHECK.due("22: empty again", 0, tower.clearText());
-        CHECK.due("22: the next one is the first one", 1, tower.append('w'));
-        CHECK.due("22: records nothing", TowerFaces.NOT_POSSIBLE, tower.undo());
+        CHECK.due("22: the next one is the first one", 1, tower.append('o'));
+        tower.append('3');
+        CHECK.due("22: nothing of the text ahead is left", TowerFaces.NONE, tower.errorPosition());
     }
 
     private static void texts() {
@@ -88,7 +79,6 @@ final class TextTest {
             Texts.put(tower, text);
             CHECK.due("24: work of '" + text + "'", TowerFaces.BAD_TEXT, tower.work());
             CHECK.due("24: which keeps the buffer", text.length(), tower.clearText());
-            CHECK.due("24: and records nothing", TowerFaces.NOT_POSSIBLE, tower.undo());
         }
     }
 
