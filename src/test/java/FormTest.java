@@ -14,7 +14,7 @@ import java.util.regex.Pattern;
 /** The public face of the document, and those rules of ../shared/LANGUAGE.md that a look can tell. */
 final class FormTest {
     private static final Check CHECK = new Check("FormTest");
-    private static final String[] METHODS = {"append 1", "bell 1", "bestOil 0", "clearText 0", "coming 2", "dial 2",
+    static final String[] METHODS = {"append 1", "bell 1", "bestOil 0", "clearText 0", "coming 2", "dial 2",
         "dismiss 1", "errorPosition 0", "face 2", "gear 2", "hire 2", "keeper 2", "keeperTime 0", "majority 0",
         "minutesTo 1", "oil 1", "pass 1", "reset 0", "restore 0", "save 0", "set 2", "setting 1", "spreadIn 1",
         "total 1", "undo 0", "work 0"};
@@ -29,9 +29,7 @@ final class FormTest {
         members();
         methods();
         privateNames();
-        if (args.length > 0) {
-            source(Files.readString(Path.of(args[0])));
-        }
+        source(Files.readString(Path.of(args.length > 0 ? args[0] : ".", "src/main/java/TowerFaces.java")));
         CHECK.end();
     }
 

@@ -12,6 +12,23 @@ final class Looks {
     private Looks() {
     }
 
+    static int ofTotal(int what) {
+        return what;
+    }
+
+    static int ofFace(int face, int part) {
+        return TOTALS + face * FACE_PARTS + part;
+    }
+
+    static int ofSetting(int setting) {
+        return TOTALS + FACE_LOOKS + setting;
+    }
+
+    /** Of a minute that is looked at: one in 120. */
+    static int ofKeeper(int minute, int part) {
+        return TOTALS + FACE_LOOKS + SETTINGS + minute / MINUTES_APART * KEEPER_PARTS + part;
+    }
+
     static int one(TowerFaces tower, int number) {
         int rest = number;
         if (rest < TOTALS) {

@@ -378,6 +378,8 @@ final class MinuteTest {
         CHECK.due("25: back from the last time", 4, tower.undo());
         CHECK.due("15: the time ahead", 999998, tower.total(0));
         CHECK.holds("8: and on again", tower.pass(1) >= 0);
+        CHECK.due("26: saved at the last time", 999999, tower.save());
+        CHECK.due("27: restored at the last time", 999999, tower.restore());
     }
 
     private static void workAtLastTime() {

@@ -9,7 +9,7 @@ final class ModelTest {
     /** One work and the ";" ahead of it are appended together: ";k00:00+30". */
     private static final int LONGEST_WORK = 10;
     private static final int RUNS = 400;
-    private static final int RUNS_TO_LAST_TIME = 40;
+    private static final int RUNS_TO_LAST_TIME = 25;
     private static final int[] FAR = {Integer.MIN_VALUE, Integer.MIN_VALUE + 1, -1441, -31, -1, 4, 61, 127, 720,
         1440, 2001, 5001, 65537, Integer.MAX_VALUE - 1, Integer.MAX_VALUE};
     private static final String SIGNS = "fkwob0123456789:+-;x";
@@ -72,10 +72,12 @@ final class ModelTest {
         } else if (calls <= 500) {
             int minutes = calls < 500 ? 2000 : 1999 - next(2);
             due("pass", tower.pass(minutes), model.pass(minutes));
-        } else if (next(2) == 0) {
+        } else if (next(3) == 0) {
             changes(next(9));
+        } else if (next(4) == 0) {
+            states(next(3));
         } else {
-            looks(3 + next(3));
+            looks(3 + next(5));
         }
     }
 

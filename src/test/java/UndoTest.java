@@ -235,6 +235,10 @@ final class UndoTest {
         CHECK.due("26: the state is another now", 0, tower.total(0));
         CHECK.due("26: the last one saved", 15, tower.restore());
         CHECK.due("26: saved again", 15, tower.save());
+        tower.pass(1985);
+        CHECK.due("26: a time behind the first day", 2000, tower.save());
+        tower.pass(1);
+        CHECK.due("27: a time behind the first day", 2000, tower.restore());
     }
 
     private static void restore() {

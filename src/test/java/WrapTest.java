@@ -49,7 +49,7 @@ final class WrapTest {
             }
         }
         // A gear that slips in the minute of the shaft's slip: the dial only goes back.
-        int[][] stopped = {{0, 719}, {1, 0}, {719, 718}};
+        int[][] stopped = {{0, 719}, {1, 0}, {61, 60}, {719, 718}};
         for (int[] row : stopped) {
             TowerFaces tower = new TowerFaces();
             tower.set(2, 100);
@@ -57,6 +57,7 @@ final class WrapTest {
             tower.pass(33);
             tower.dial(0, row[0]);
             CHECK.due("8: no bell strikes backwards", 0, tower.pass(1));
+            CHECK.due("14: nor is a strike counted", 0, tower.face(0, 6));
             CHECK.due("8: slip of the gear", 1, tower.face(0, 4));
             CHECK.due("8: slip of the shaft", 1, tower.total(3));
             CHECK.due("8: the dial goes back from " + row[0], row[1], tower.face(0, 0));
