@@ -29,6 +29,7 @@ final class FormTest {
         members();
         methods();
         privateNames();
+        fields();
         source(Files.readString(Path.of(args.length > 0 ? args[0] : ".", "src/main/java/TowerFaces.java")));
         CHECK.end();
     }
@@ -52,9 +53,6 @@ final class FormTest {
             } else {
                 CHECK.holds("private: " + field.getName(), Modifier.isPrivate(field.getModifiers()));
             }
-            if (Modifier.isStatic(field.getModifiers())) {
-                CHECK.holds("final: " + field.getName(), Modifier.isFinal(field.getModifiers()));
-            }
         }
         CHECK.due("public constants", 6, constants);
         Constructor<?>[] constructors = TowerFaces.class.getDeclaredConstructors();
@@ -73,6 +71,9 @@ final class FormTest {
             if (Modifier.isPublic(kind)) {
                 found.add(method.getName() + " " + method.getParameterCount());
                 CHECK.holds("int: " + method.getName(), method.getReturnType() == int.class);
+                for (Class<?> argument : method.getParameterTypes()) {
+                    CHECK.holds("int: argument of " + method.getName(), argument == int.class);
+                }
             } else {
                 CHECK.holds("private: " + method.getName(), Modifier.isPrivate(kind) || method.isSynthetic());
             }
@@ -100,6 +101,26 @@ final class FormTest {
             }
         }
         return false;
+    }
+
+    /** Static fields are constants, and no class has more than some twenty others. */
+    private static void fields() {
+        List<Class<?>> kinds = List.of(int.class, long.class, boolean.class, char.class, String.class, int[].class,
+            long[].class, char[].class, byte[].class);
+        List<Class<?>> classes = new ArrayList<>(List.of(TowerFaces.class.getDeclaredClasses()));
+        classes.add(TowerFaces.class);
+        for (Class<?> type : classes) {
+            int others = 0;
+            for (Field field : type.getDeclaredFields()) {
+                if (Modifier.isStatic(field.getModifiers())) {
+                    CHECK.holds("final: " + field, Modifier.isFinal(field.getModifiers()));
+                    CHECK.holds("a constant: " + field, kinds.contains(field.getType()));
+                } else {
+                    others++;
+                }
+            }
+            CHECK.holds("at most twenty fields: " + type.getName(), others <= 20);
+        }
     }
 
     private static void source(String text) {
